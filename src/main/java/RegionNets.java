@@ -161,15 +161,15 @@ public final class RegionNets {
     }
 
     public int leaks() {
-        return regions.stopsNotPrevented();
+        return regions.pairsNotPrevented();
     }
 
     public double fidelity() {
-        int pairs = steps.statePairs() + steps.stops();
+        int pairs = steps.statePairs() + steps.stopPairs();
         if (pairs == 0) {
             return 1.0;
         }
-        int wrong = regions.pairsNotApart() + regions.stopsNotPrevented();
+        int wrong = regions.pairsNotApart() + regions.pairsNotPrevented();
         return 1.0 - (double) wrong / (double) pairs;
     }
 
@@ -501,19 +501,17 @@ public final class RegionNets {
             return states * (states - 1) / 2;
         }
 
-        /** Whether the label has no step from the state, but steps elsewhere. */
-        boolean isStop(int state, int label) {
-            return begins[label] != 0 && !has(begins[label], state);
+        /** The states without a step with the label, if there are steps with it elsewhere. */
+        int stopsOf(int label) {
+            return begins[label] == 0 ? 0 : all() & ~begins[label];
         }
 
-        int stops() {
-            int stops = 0;
+        int stopPairs() {
+            int pairs = 0;
             for (int label = 0; label < LABELS; label++) {
-                if (begins[label] != 0) {
-                    stops += states - Integer.bitCount(begins[label]);
-                }
+                pairs += Integer.bitCount(stopsOf(label));
             }
-            return stops;
+            return pairs;
         }
     }
 
@@ -604,16 +602,27 @@ public final class RegionNets {
             return pairs;
         }
 
-        int stopsNotPrevented() {
+        int pairsNotPrevented() {
             int pairs = 0;
-            for (int state = 0; state < steps.states; state++) {
-                for (int label = 0; label < LABELS; label++) {
-                    if (steps.isStop(state, label) && firstPreventing(state, label) == NONE) {
-                        pairs++;
-                    }
-                }
+            for (int label = 0; label < LABELS; label++) {
+                pairs += Integer.bitCount(steps.stopsOf(label) & ~preventedIn(label));
             }
             return pairs;
+        }
+
+        /** The states in which a region prevents the label; where it has steps it means nothing. */
+        private int preventedIn(int label) {
+            int prevented = 0;
+            int end = count();
+            for (int number = 0; number < end; number++) {
+                int way = steps.way(sets[number], label);
+                if (way == OUT) {
+                    prevented |= ~sets[number];
+                } else if (way == IN) {
+                    prevented |= sets[number];
+                }
+            }
+            return prevented;
         }
     }
 

@@ -394,6 +394,7 @@ public final class PromisesTest {
         quality("a label that leaks", system(2, 0, 0, 0, 0, 1, 1), 0, 1, 1.0 - 1.0 / 3.0);
         quality("twelve states in one ring", ringOfOneLabel(12), 66, 0, 0.0);
         quality("a way of one label", system(3, 0, 0, 1, 1, 0, 2), 3, 1, 0.0);
+        quality("a state like one with a step", system(3, 0, 0, 1, 0, 1, 2, 2, 1, 0), 1, 2, 0.5);
         quality("unreached states count", system(4, 0, 0, 1, 3, 0, 3, 2, 1, 2), 1, 5, 1.0 - 6.0 / 11.0);
     }
 
