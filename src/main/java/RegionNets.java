@@ -397,17 +397,12 @@ public final class RegionNets {
             return set;
         }
 
-        /** The states where the steps with the label begin that end in the set. */
-        private int sourcesOf(int set, int label) {
-            return lowSources[label][set & HALF_MASK]
-                | highSources[label][(set >> HALF) & HALF_MASK];
-        }
-
         /** In which way the label crosses the set. */
         int way(int set, int label) {
             int all = begins[label];
             int inside = all & set;
-            int entering = sourcesOf(set, label);
+            int entering = lowSources[label][set & HALF_MASK]
+                | highSources[label][(set >> HALF) & HALF_MASK];
             if (inside == entering) {
                 return NOT;
             }
@@ -444,13 +439,12 @@ public final class RegionNets {
         }
 
         private int growth(int set, int label) {
-            boolean beginInside = (begins[label] & set) != 0;
-            boolean endInside = sourcesOf(set, label) != 0;
-            if (beginInside && !endInside) {
-                return begins[label];
-            }
+            int sources = begins[label];
             int targets = endsOf(label);
-            return (targets & ~set) != 0 ? targets : begins[label];
+            if ((sources & set) != 0 && (targets & set) == 0) {
+                return sources;
+            }
+            return (targets & ~set) != 0 ? targets : sources;
         }
 
         private int endsOf(int label) {

@@ -6,6 +6,7 @@ final class Due {
     }
 
     private final String test;
+    private String about = "";
     private int looked = 0;
     private int wrong = 0;
 
@@ -52,9 +53,24 @@ final class Due {
         }
     }
 
+    /** Runs the test of one sentence of the document; what is wrong is told behind its words. */
+    void sentence(String words, Runnable look) {
+        int before = looked;
+        about = "\"" + words + "\": ";
+        try {
+            look.run();
+        } catch (RuntimeException e) {
+            tell("the test was ended by " + e);
+        }
+        if (looked == before) {
+            tell("nothing was looked at");
+        }
+        about = "";
+    }
+
     void tell(String what) {
         wrong++;
-        System.out.println(test + ": " + what);
+        System.out.println(test + ": " + about + what);
     }
 
     int wrong() {

@@ -47,19 +47,20 @@ public final class ModelRunsTest {
         PlainModel model = new PlainModel();
         List<int[]> plan = plan(run % 6);
         boolean calm = below(2) == 0;
-        for (int i = 0; i < CALLS; i++) {
+        for (int i = 1; i < CALLS; i++) {
             Method call;
             Object[] args;
-            if (i < plan.size()) {
-                call = named(plan.get(i).length == 0 ? "addState" : "step");
-                args = boxed(plan.get(i));
+            if (i <= plan.size()) {
+                int[] numbers = plan.get(i - 1);
+                call = named(numbers.length == 0 ? "addState" : "step");
+                args = boxed(numbers);
             } else {
                 call = chosen(calm);
-                args = arguments(call, program.stateCount());
+                args = arguments(call, model.stateCount());
             }
             compare("run " + run + " call " + i, call, args, program, model);
         }
-        due.is("run " + run + " digest() at its end", program.digest(), model.digest());
+        due.is("run " + run + " digest() as call " + CALLS, program.digest(), model.digest());
     }
 
     private Method named(String name) {

@@ -3,7 +3,7 @@ public final class PromisesTest {
     private static final Class<IndexOutOfBoundsException> INDEX = IndexOutOfBoundsException.class;
     private static final Class<IllegalArgumentException> ARGUMENT = IllegalArgumentException.class;
     private static final Class<IllegalStateException> STATE = IllegalStateException.class;
-    private static final int[] NO_LABELS = {-1, 6, 7, 12, Integer.MIN_VALUE, Integer.MAX_VALUE};
+    private static final int[] NO_LABELS = Systems.NO_LABELS;
 
     private static final Due DUE = new Due("PromisesTest");
 
@@ -19,37 +19,6 @@ public final class PromisesTest {
         comparing();
         digests();
         DUE.end();
-    }
-
-    // ---- systems to look at; steps are told as rows of from, label, to
-
-    private static RegionNets system(int states, int... steps) {
-        RegionNets x = new RegionNets();
-        for (int s = 1; s < states; s++) {
-            x.addState();
-        }
-        for (int i = 0; i + 2 < steps.length; i += 3) {
-            x.step(steps[i], steps[i + 1], steps[i + 2]);
-        }
-        return x;
-    }
-
-    private static RegionNets ring() {
-        return system(3, 0, 0, 1, 1, 1, 2, 2, 2, 0);
-    }
-
-    private static RegionNets diamond() {
-        return system(4, 0, 0, 1, 0, 1, 2, 1, 1, 3, 2, 0, 3);
-    }
-
-    private static RegionNets swap() {
-        return system(2, 0, 0, 1, 1, 0, 0);
-    }
-
-    /** A system with 64 least regions, more than a net has places. */
-    private static RegionNets crowd() {
-        return system(12, 0, 1, 10, 0, 4, 1, 1, 0, 7, 1, 3, 6, 2, 1, 11, 3, 2, 9,
-            4, 5, 4, 5, 4, 11, 6, 2, 4, 8, 0, 5, 9, 3, 5);
     }
 
     // ---- promises 1 to 8
@@ -71,8 +40,8 @@ public final class PromisesTest {
         for (int label = 0; label < 6; label++) {
             DUE.is("new: target(0, " + label + ")", x.target(0, label), -1);
         }
-        DUE.is("new: digest()", x.digest(), digestOf(1, -1, -1, -1, -1, -1, -1, 0));
-        RegionNets y = system(12);
+        DUE.is("new: digest()", x.digest(), Systems.digestOf(1, -1, -1, -1, -1, -1, -1, 0));
+        RegionNets y = Systems.system(12);
         DUE.is("another object is not touched: stateCount()", x.stateCount(), 1);
         DUE.is("the other one: stateCount()", y.stateCount(), 12);
     }
@@ -91,7 +60,7 @@ public final class PromisesTest {
     }
 
     private static void stepping() {
-        RegionNets x = system(3);
+        RegionNets x = Systems.system(3);
         DUE.is("step(0, 5, 2)", x.step(0, 5, 2), -1);
         DUE.is("step(0, 5, 1) in its place", x.step(0, 5, 1), 2);
         DUE.is("step(0, 5, 1) again", x.step(0, 5, 1), 1);
@@ -116,7 +85,7 @@ public final class PromisesTest {
     }
 
     private static void unstepping() {
-        RegionNets x = system(3, 0, 1, 2, 2, 1, 2);
+        RegionNets x = Systems.system(3, 0, 1, 2, 2, 1, 2);
         DUE.is("unstep(0, 1)", x.unstep(0, 1), true);
         DUE.is("unstep(0, 1) again", x.unstep(0, 1), false);
         DUE.is("unstep(1, 1)", x.unstep(1, 1), false);
@@ -135,7 +104,7 @@ public final class PromisesTest {
     }
 
     private static void renaming() {
-        RegionNets x = system(4, 0, 0, 1, 1, 0, 2, 2, 3, 0, 3, 0, 3, 0, 4, 0);
+        RegionNets x = Systems.system(4, 0, 0, 1, 1, 0, 2, 2, 3, 0, 3, 0, 3, 0, 4, 0);
         DUE.is("rename(0, 3)", x.rename(0, 3), 3);
         DUE.is("target(0, 3)", x.target(0, 3), 1);
         DUE.is("target(1, 3)", x.target(1, 3), 2);
@@ -166,7 +135,7 @@ public final class PromisesTest {
     }
 
     private static void looking() {
-        RegionNets x = system(12, 11, 5, 11, 11, 0, 0, 3, 2, 4);
+        RegionNets x = Systems.system(12, 11, 5, 11, 11, 0, 0, 3, 2, 4);
         DUE.is("target(11, 5)", x.target(11, 5), 11);
         DUE.is("target(11, 0)", x.target(11, 0), 0);
         DUE.is("target(11, 4)", x.target(11, 4), -1);
@@ -188,7 +157,7 @@ public final class PromisesTest {
     // ---- promises 9 and 10
 
     private static void searches() {
-        RegionNets x = system(6, 0, 0, 1, 1, 0, 2, 2, 0, 3, 0, 1, 3, 4, 0, 0, 3, 2, 1);
+        RegionNets x = Systems.system(6, 0, 0, 1, 1, 0, 2, 2, 0, 3, 0, 1, 3, 4, 0, 0, 3, 2, 1);
         DUE.is("reached()", x.reached(), 15);
         int[] far = {0, 1, 2, 1, -1, -1};
         for (int s = 0; s < 6; s++) {
@@ -204,7 +173,7 @@ public final class PromisesTest {
         DUE.is("reached() of one state", one.reached(), 1);
         DUE.is("distance(0) of one state", one.distance(0), 0);
         // The way leads downwards through the numbers, so that each round finds one state.
-        RegionNets way = system(12, 0, 0, 11);
+        RegionNets way = Systems.system(12, 0, 0, 11);
         for (int s = 11; s > 1; s--) {
             way.step(s, s % 6, s - 1);
         }
@@ -216,7 +185,7 @@ public final class PromisesTest {
     // ---- promises 11 and 12
 
     private static void crossings() {
-        RegionNets x = system(4, 0, 0, 1, 2, 0, 3, 0, 1, 0, 1, 1, 1);
+        RegionNets x = Systems.system(4, 0, 0, 1, 2, 0, 3, 0, 1, 0, 1, 1, 1);
         DUE.is("crossing({}, 0)", x.crossing(0, 0), 0);
         DUE.is("crossing(all, 0)", x.crossing(15, 0), 0);
         DUE.is("crossing({0, 1}, 0)", x.crossing(3, 0), 0);
@@ -235,7 +204,7 @@ public final class PromisesTest {
         DUE.is("isRegion({0})", x.isRegion(1), false);
         DUE.is("isRegion({1, 3})", x.isRegion(10), true);
         DUE.is("isRegion(all) of one state", new RegionNets().isRegion(1), false);
-        RegionNets far = system(12, 11, 5, 0, 5, 5, 6);
+        RegionNets far = Systems.system(12, 11, 5, 0, 5, 5, 6);
         DUE.is("crossing({5, 11}, 5)", far.crossing(1 << 5 | 1 << 11, 5), 2);
         DUE.is("crossing({0, 6}, 5)", far.crossing(1 | 1 << 6, 5), 1);
         DUE.is("crossing({5, 6}, 5)", far.crossing(1 << 5 | 1 << 6, 5), 0);
@@ -257,14 +226,14 @@ public final class PromisesTest {
     // ---- promises 13 to 15, 17 and 18
 
     private static void regions() {
-        RegionNets x = diamond();
+        RegionNets x = Systems.diamond();
         int[] sets = {3, 5, 10, 12};
         DUE.is("regionCount() of the diamond", x.regionCount(), 4);
         for (int i = 0; i < 4; i++) {
             DUE.is("region(" + i + ")", x.region(i), sets[i]);
             DUE.is("isLeast(" + i + ")", x.isLeast(i), true);
         }
-        RegionNets ring = ring();
+        RegionNets ring = Systems.ring();
         boolean[] least = {true, true, false, true, false, false};
         for (int i = 0; i < 6; i++) {
             DUE.is("ring: region(" + i + ")", ring.region(i), i + 1);
@@ -276,7 +245,7 @@ public final class PromisesTest {
         }
         ring.step(0, 1, 0);
         DUE.is("regionCount() after a change", ring.regionCount(), 2);
-        RegionNets full = system(12);
+        RegionNets full = Systems.system(12);
         DUE.is("regionCount() without steps", full.regionCount(), 4094);
         DUE.is("region(4093) without steps", full.region(4093), 4094);
         DUE.is("isLeast(4093) without steps", full.isLeast(4093), false);
@@ -285,12 +254,12 @@ public final class PromisesTest {
         DUE.is("regionCount() of one state", new RegionNets().regionCount(), 0);
         DUE.isThrown("region(0) of one state", INDEX, () -> new RegionNets().region(0));
         DUE.isThrown("isLeast(0) of one state", INDEX, () -> new RegionNets().isLeast(0));
-        RegionNets first = system(3, 0, 0, 0, 1, 1, 2, 2, 1, 1);
+        RegionNets first = Systems.system(3, 0, 0, 0, 1, 1, 2, 2, 1, 1);
         DUE.is("regionCount() of a loop and a pair", first.regionCount(), 2);
-        RegionNets lone = system(4, 1, 0, 3, 3, 0, 1, 1, 1, 2, 2, 1, 1);
+        RegionNets lone = Systems.system(4, 1, 0, 3, 3, 0, 1, 1, 1, 2, 2, 1, 1);
         DUE.is("regionCount() of {0} and {1, 2, 3}", lone.regionCount(), 2);
         DUE.is("isLeast(1) of {1, 2, 3}", lone.isLeast(1), true);
-        RegionNets part = system(4, 1, 0, 2, 2, 0, 1);
+        RegionNets part = Systems.system(4, 1, 0, 2, 2, 0, 1);
         DUE.is("region(2) with {0} as its one part", part.region(2), 7);
         DUE.is("isLeast(2) with {0} as its one part", part.isLeast(2), false);
         telling(x);
@@ -300,7 +269,7 @@ public final class PromisesTest {
 
     // What was found before a change must not be seen behind it.
     private static void afterChanges() {
-        RegionNets x = system(3);
+        RegionNets x = Systems.system(3);
         DUE.is("apart(0, 1) before the steps", x.apart(0, 1), 0);
         x.step(0, 0, 1);
         x.step(1, 0, 0);
@@ -308,7 +277,7 @@ public final class PromisesTest {
         x.step(2, 1, 1);
         DUE.is("regionCount() behind the steps", x.regionCount(), 0);
         DUE.is("apart(0, 1) behind the steps", x.apart(0, 1), -1);
-        RegionNets y = system(2, 0, 0, 1);
+        RegionNets y = Systems.system(2, 0, 0, 1);
         DUE.is("preventer(1, 0) before the step", y.preventer(1, 0), 0);
         y.step(1, 1, 0);
         DUE.is("preventer(1, 0) behind the step", y.preventer(1, 0), 0);
@@ -318,7 +287,7 @@ public final class PromisesTest {
         y.step(1, 1, 1);
         DUE.is("regionCount() of two loops", y.regionCount(), 2);
         DUE.is("preventer(1, 0) of two loops", y.preventer(1, 0), -1);
-        RegionNets z = diamond();
+        RegionNets z = Systems.diamond();
         z.makeNet();
         DUE.is("markingCount() before a change", z.markingCount(), 4);
         z.step(0, 0, 1);
@@ -336,7 +305,7 @@ public final class PromisesTest {
         DUE.is("apart(0, 2)", x.apart(0, 2), 0);
         DUE.is("apart(0, 3)", x.apart(0, 3), 0);
         DUE.is("apart(2, 2)", x.apart(2, 2), -1);
-        DUE.is("apart(0, 1) in swap", swap().apart(0, 1), -1);
+        DUE.is("apart(0, 1) in swap", Systems.swap().apart(0, 1), -1);
         for (int no : new int[] {-1, 4, 12, Integer.MIN_VALUE, Integer.MAX_VALUE}) {
             DUE.isThrown("apart(" + no + ", 0)", INDEX, () -> x.apart(no, 0));
             DUE.isThrown("apart(0, " + no + ")", INDEX, () -> x.apart(0, no));
@@ -353,17 +322,17 @@ public final class PromisesTest {
         DUE.is("preventer(3, 1): first one that it leaves", x.preventer(3, 1), 0);
         DUE.is("preventer(0, 2): no steps anywhere", x.preventer(0, 2), -1);
         // In state 1 the region {1}, which the label enters, comes before {0}, which it leaves.
-        RegionNets down = system(3, 2, 0, 0);
+        RegionNets down = Systems.system(3, 2, 0, 0);
         DUE.is("preventer(0, 0): first one that it enters", down.preventer(0, 0), 0);
         DUE.is("preventer(1, 0): first one that it enters with the state in", down.preventer(1, 0), 2);
-        RegionNets loop = system(2, 0, 0, 0);
+        RegionNets loop = Systems.system(2, 0, 0, 0);
         DUE.is("preventer(1, 0) where nothing is crossed", loop.preventer(1, 0), -1);
     }
 
     // ---- promise 16
 
     private static void growing() {
-        RegionNets x = system(6, 0, 0, 1, 2, 0, 3, 4, 0, 5);
+        RegionNets x = Systems.system(6, 0, 0, 1, 2, 0, 3, 4, 0, 5);
         DUE.is("grow({0}): where steps begin", x.grow(1), 21);
         DUE.is("grow({1}): where steps end", x.grow(2), 42);
         DUE.is("grow({0, 1}): no label is mixed", x.grow(3), 3);
@@ -371,10 +340,10 @@ public final class PromisesTest {
         DUE.is("grow({0, 1, 3, 5}): none of the ends is new", x.grow(43), 63);
         DUE.is("grow({})", x.grow(0), 0);
         DUE.is("grow(all)", x.grow(63), 63);
-        RegionNets two = system(6, 0, 1, 1, 2, 1, 3, 0, 0, 4, 5, 0, 1);
+        RegionNets two = Systems.system(6, 0, 1, 1, 2, 1, 3, 0, 0, 4, 5, 0, 1);
         DUE.is("grow({0}): the smaller label first", two.grow(1), 37);
         DUE.is("grow({0, 3}): one label only, but both must rest", two.grow(9), 63);
-        RegionNets chain = system(5, 0, 2, 1, 1, 3, 2, 1, 2, 3, 3, 3, 4, 2, 2, 4);
+        RegionNets chain = Systems.system(5, 0, 2, 1, 1, 3, 2, 1, 2, 3, 3, 3, 4, 2, 2, 4);
         DUE.is("grow({0}) of a chain", chain.grow(1), 31);
         for (int no : new int[] {64, 65, -1, 4096, Integer.MIN_VALUE, Integer.MAX_VALUE}) {
             DUE.isThrown("grow(" + no + ")", ARGUMENT, () -> x.grow(no));
@@ -385,25 +354,17 @@ public final class PromisesTest {
     // ---- promises 19 to 21
 
     private static void quality() {
-        quality("ring", ring(), 0, 0, 1.0);
-        quality("diamond", diamond(), 0, 0, 1.0);
-        quality("swap", swap(), 1, 0, 0.0);
+        quality("ring", Systems.ring(), 0, 0, 1.0);
+        quality("diamond", Systems.diamond(), 0, 0, 1.0);
+        quality("swap", Systems.swap(), 1, 0, 0.0);
         quality("one state", new RegionNets(), 0, 0, 1.0);
-        quality("one state with all labels", system(1, 0, 0, 0, 0, 1, 0), 0, 0, 1.0);
-        quality("two states without steps", system(2), 0, 0, 1.0);
-        quality("a label that leaks", system(2, 0, 0, 0, 0, 1, 1), 0, 1, 1.0 - 1.0 / 3.0);
-        quality("twelve states in one ring", ringOfOneLabel(12), 66, 0, 0.0);
-        quality("a way of one label", system(3, 0, 0, 1, 1, 0, 2), 3, 1, 0.0);
-        quality("a state like one with a step", system(3, 0, 0, 1, 0, 1, 2, 2, 1, 0), 1, 2, 0.5);
-        quality("unreached states count", system(4, 0, 0, 1, 3, 0, 3, 2, 1, 2), 1, 5, 1.0 - 6.0 / 11.0);
-    }
-
-    private static RegionNets ringOfOneLabel(int states) {
-        RegionNets x = system(states);
-        for (int s = 0; s < states; s++) {
-            x.step(s, 4, (s + 1) % states);
-        }
-        return x;
+        quality("one state with all labels", Systems.system(1, 0, 0, 0, 0, 1, 0), 0, 0, 1.0);
+        quality("two states without steps", Systems.system(2), 0, 0, 1.0);
+        quality("a label that leaks", Systems.system(2, 0, 0, 0, 0, 1, 1), 0, 1, 1.0 - 1.0 / 3.0);
+        quality("twelve states in one ring", Systems.ringOfOneLabel(12), 66, 0, 0.0);
+        quality("a way of one label", Systems.system(3, 0, 0, 1, 1, 0, 2), 3, 1, 0.0);
+        quality("a state like one with a step", Systems.system(3, 0, 0, 1, 0, 1, 2, 2, 1, 0), 1, 2, 0.5);
+        quality("unreached states count", Systems.system(4, 0, 0, 1, 3, 0, 3, 2, 1, 2), 1, 5, 1.0 - 6.0 / 11.0);
     }
 
     private static void quality(String name, RegionNets x, int lumps, int leaks, double fidelity) {
@@ -415,7 +376,7 @@ public final class PromisesTest {
     // ---- promises 22 to 26
 
     private static void makingNets() {
-        RegionNets x = diamond();
+        RegionNets x = Systems.diamond();
         netAsked(x, 4);
         DUE.is("makeNet() of the diamond", x.makeNet(), 4);
         DUE.is("hasNet() after makeNet()", x.hasNet(), true);
@@ -438,12 +399,12 @@ public final class PromisesTest {
             DUE.isThrown("fire(" + no + ")", INDEX, () -> x.fire(no));
         }
         dropping(x);
-        DUE.is("makeNet() of swap", swap().makeNet(), 0);
-        RegionNets part = system(4, 1, 0, 2, 2, 0, 1);
+        DUE.is("makeNet() of swap", Systems.swap().makeNet(), 0);
+        RegionNets part = Systems.system(4, 1, 0, 2, 2, 0, 1);
         DUE.is("makeNet() where the place 0 alone is a part of a region", part.makeNet(), 3);
         DUE.is("placeRegion(2) there", part.placeRegion(2), 8);
         DUE.is("makeNet() of one state", new RegionNets().makeNet(), 0);
-        DUE.is("makeNet() without steps", system(12).makeNet(), 12);
+        DUE.is("makeNet() without steps", Systems.system(12).makeNet(), 12);
         crowding();
     }
 
@@ -479,7 +440,7 @@ public final class PromisesTest {
     }
 
     private static void crowding() {
-        RegionNets x = crowd();
+        RegionNets x = Systems.crowd();
         int least = 0;
         int lastPlace = 0;
         for (int i = 0; i < x.regionCount(); i++) {
@@ -498,7 +459,7 @@ public final class PromisesTest {
     // ---- promises 27 to 30
 
     private static void playing() {
-        RegionNets x = diamond();
+        RegionNets x = Systems.diamond();
         x.makeNet();
         DUE.is("marking() at first", x.marking(), 3);
         DUE.is("fire(2) without steps", x.fire(2), -1);
@@ -518,7 +479,7 @@ public final class PromisesTest {
         DUE.is("marking() after looking", x.marking(), 12);
         DUE.is("makeNet() once more", x.makeNet(), 4);
         DUE.is("marking() as at first", x.marking(), 3);
-        RegionNets none = swap();
+        RegionNets none = Systems.swap();
         none.makeNet();
         DUE.is("marking() without places", none.marking(), 0);
         DUE.is("fire(0) without places", none.fire(0), 0);
@@ -531,7 +492,7 @@ public final class PromisesTest {
 
     // The order in which markings are found: by the earlier marking, then by ascending labels.
     private static void finding() {
-        RegionNets x = system(4, 0, 5, 1, 0, 2, 2, 1, 0, 3);
+        RegionNets x = Systems.system(4, 0, 5, 1, 0, 2, 2, 1, 0, 3);
         x.makeNet();
         int[] found = {1, 4, 2, 8};
         DUE.is("markingCount() of a tree", x.markingCount(), 4);
@@ -539,7 +500,7 @@ public final class PromisesTest {
             DUE.is("markingAt(" + i + ") of a tree", x.markingAt(i), found[i]);
         }
         // A place to which a label produces must not be marked: the lone state's leads nowhere.
-        RegionNets blocked = system(3, 1, 0, 0);
+        RegionNets blocked = Systems.system(3, 1, 0, 0);
         blocked.makeNet();
         DUE.is("fire(0) into a marked place", blocked.fire(0), -1);
         DUE.is("markingCount() where nothing fires", blocked.markingCount(), 1);
@@ -548,19 +509,19 @@ public final class PromisesTest {
     // ---- promise 31
 
     private static void comparing() {
-        faithful("ring", ring(), true);
-        faithful("diamond", diamond(), true);
-        faithful("swap: two states, one marking", swap(), false);
+        faithful("ring", Systems.ring(), true);
+        faithful("diamond", Systems.diamond(), true);
+        faithful("swap: two states, one marking", Systems.swap(), false);
         faithful("one state", new RegionNets(), true);
-        faithful("one state with a step", system(1, 0, 3, 0), true);
-        faithful("unreached states that are like reached ones", system(4, 0, 0, 1, 2, 0, 1, 3, 0, 1), true);
-        faithful("unreached states with steps of their own", system(4, 0, 0, 1, 2, 1, 3), true);
-        faithful("a label fires where there is no step", system(2, 0, 0, 0, 0, 1, 1), false);
-        faithful("a label of an unreached state fires", system(3, 0, 0, 1, 2, 1, 2), false);
-        faithful("a label fires in the first state alone where there is no step", system(2, 0, 0, 1, 1, 1, 1), false);
-        faithful("a ring of one label", ringOfOneLabel(5), false);
-        faithful("a way of one label", system(3, 0, 0, 1, 1, 0, 2), false);
-        RegionNets x = ring();
+        faithful("one state with a step", Systems.system(1, 0, 3, 0), true);
+        faithful("unreached states that are like reached ones", Systems.system(4, 0, 0, 1, 2, 0, 1, 3, 0, 1), true);
+        faithful("unreached states with steps of their own", Systems.system(4, 0, 0, 1, 2, 1, 3), true);
+        faithful("a label fires where there is no step", Systems.system(2, 0, 0, 0, 0, 1, 1), false);
+        faithful("a label of an unreached state fires", Systems.system(3, 0, 0, 1, 2, 1, 2), false);
+        faithful("a label fires in the first state alone where there is no step", Systems.system(2, 0, 0, 1, 1, 1, 1), false);
+        faithful("a ring of one label", Systems.ringOfOneLabel(5), false);
+        faithful("a way of one label", Systems.system(3, 0, 0, 1, 1, 0, 2), false);
+        RegionNets x = Systems.ring();
         x.makeNet();
         x.fire(0);
         DUE.is("isFaithful() does not hang on the present marking", x.isFaithful(), true);
@@ -574,26 +535,18 @@ public final class PromisesTest {
 
     // ---- promise 32
 
-    private static long digestOf(long... numbers) {
-        long d = 151;
-        for (long x : numbers) {
-            d = d * 31 + x;
-        }
-        return d;
-    }
-
     private static void digests() {
-        RegionNets x = system(2, 0, 0, 1);
+        RegionNets x = Systems.system(2, 0, 0, 1);
         long[] bare = {2, 1, -1, -1, -1, -1, -1, -1, -1, -1, -1, -1, -1, 2, 1, 2};
-        DUE.is("digest() without a net", x.digest(), digestOf(bare));
+        DUE.is("digest() without a net", x.digest(), Systems.digestOf(bare));
         x.makeNet();
-        DUE.is("digest() with a net", x.digest(), (digestOf(bare) * 31 + 2) * 31 + 1);
+        DUE.is("digest() with a net", x.digest(), (Systems.digestOf(bare) * 31 + 2) * 31 + 1);
         x.fire(0);
-        DUE.is("digest() after fire(0)", x.digest(), (digestOf(bare) * 31 + 2) * 31 + 2);
+        DUE.is("digest() after fire(0)", x.digest(), (Systems.digestOf(bare) * 31 + 2) * 31 + 2);
         x.addState();
         x.unstep(0, 0);
         x.step(2, 5, 0);
-        DUE.is("digest() after changes", x.digest(), digestOf(3, -1, -1, -1, -1, -1, -1,
+        DUE.is("digest() after changes", x.digest(), Systems.digestOf(3, -1, -1, -1, -1, -1, -1,
             -1, -1, -1, -1, -1, -1, -1, -1, -1, -1, -1, 0, 6, 1, 2, 3, 4, 5, 6));
     }
 }
