@@ -1,4 +1,5 @@
 import java.math.BigInteger;
+import java.util.HashSet;
 import java.util.function.Consumer;
 
 /** The sentences on nets that name a boundary (promises 22 to 32), a test for each. */
@@ -9,6 +10,7 @@ public final class NetBoundariesTest {
 
     public static void main(String[] args) {
         places();
+        markings();
         crossedPlaces();
         thirtyPlaces();
         keeping();
@@ -55,6 +57,31 @@ public final class NetBoundariesTest {
                 netOf(Systems.system(3, 0, 0, 2, 2, 0, 0)).marking(), 2);
             DUE.is("marking() of 12 states", netOf(Systems.system(12)).marking(), 1);
             DUE.is("marking() of the crowd: all 30", netOf(Systems.crowd()).marking(), (1 << 30) - 1);
+        });
+    }
+
+    private static void markings() {
+        DUE.sentence("A marking is a set of places, told as the sum of the powers 2^k of their numbers k.", () -> {
+            RegionNets x = netOf(Systems.system(12, 0, 0, 11, 11, 5, 10));
+            DUE.is("marking(): the place 0", x.marking(), 1);
+            DUE.is("fire(0): the place 11", x.fire(0), 2048);
+            DUE.is("fire(5): the place 10", x.fire(5), 1024);
+            DUE.is("marking() of the crowd: the places 0 to 29", netOf(Systems.crowd()).marking(), 1073741823);
+        });
+        DUE.sentence("Returns the present marking.", () -> {
+            RegionNets x = netOf(Systems.diamond());
+            DUE.is("marking() at first", x.marking(), 3);
+            x.fire(0);
+            DUE.is("marking() behind fire(0)", x.marking(), 5);
+            x.fire(0);
+            DUE.is("marking() behind a fire(0) that can't be", x.marking(), 5);
+            x.markingCount();
+            x.markingAt(3);
+            x.isFaithful();
+            DUE.is("marking() behind the markings that can come", x.marking(), 5);
+            x.makeNet();
+            DUE.is("marking() behind makeNet()", x.marking(), 3);
+            DUE.is("marking() without places", netOf(Systems.swap()).marking(), 0);
         });
     }
 
@@ -273,6 +300,12 @@ public final class NetBoundariesTest {
             DUE.is("fire(2): one of the two is", x.fire(2), -1);
             DUE.is("fire(1)", x.fire(1), 12);
             DUE.is("fire(2): both are", x.fire(2), 3);
+            RegionNets y = netOf(Systems.system(5, 2, 0, 4, 3, 0, 0, 3, 1, 1));
+            DUE.is("marking() with the places {0, 3} and {0, 4}", y.marking(), 10);
+            DUE.is("consumed(1): {0, 3} and {2, 3}", y.consumed(1), 6);
+            DUE.is("produced(1): {1}, which is not marked", y.produced(1), 1);
+            DUE.is("fire(1): one of the two is marked", y.fire(1), -1);
+            DUE.is("markingCount()", y.markingCount(), 1);
         });
         DUE.sentence("and all places to which it produces are not", NetBoundariesTest::blockedLabels);
         DUE.sentence("then the former are marked no more, and the latter are.", () -> {
@@ -360,6 +393,18 @@ public final class NetBoundariesTest {
             DUE.is("markingCount() beyond the states", netOf(Systems.system(12, Systems.MANY_MARKINGS)).markingCount(), 48);
             likeModel("48 markings", Systems.MANY_MARKINGS);
         });
+        DUE.sentence("Returns how many markings can come (200 at most).", () -> {
+            for (int[] steps : new int[][] {{}, Systems.THIRTY, Systems.THIRTY_FOUR, Systems.SIXTY_FOUR,
+                    Systems.MANY_MARKINGS}) {
+                RegionNets x = netOf(Systems.system(12, steps));
+                HashSet<Integer> seen = new HashSet<>();
+                for (int i = 0; i < x.markingCount(); i++) {
+                    seen.add(x.markingAt(i));
+                }
+                DUE.is("markingCount() counts each once", x.markingCount(), seen.size());
+                DUE.is("markingCount() is not beyond 200", x.markingCount() <= 200, true);
+            }
+        });
         DUE.sentence("Throws `IndexOutOfBoundsException` if there is no such marking", () -> {
             for (RegionNets x : new RegionNets[] {new RegionNets(), Systems.swap(), Systems.diamond(),
                     Systems.crowd(), Systems.system(12, Systems.MANY_MARKINGS)}) {
@@ -390,6 +435,7 @@ public final class NetBoundariesTest {
             DUE.is("makeNet() again", x.makeNet(), 4);
             DUE.isText("everything as before", Systems.told(x), before);
         });
+        DUE.sentence("no net was made since the last change", NetBoundariesTest::madeAnew);
         DUE.sentence("At each call its places are marked as at first.", () -> {
             RegionNets x = netOf(Systems.diamond());
             DUE.is("fire(0)", x.fire(0), 5);
@@ -411,6 +457,31 @@ public final class NetBoundariesTest {
         });
     }
 
+    // Nothing of the former net is left in the next one, be it smaller or larger.
+    private static void madeAnew() {
+        RegionNets x = netOf(Systems.diamond());
+        x.addState();
+        placesAre("the diamond and a state", x, 3, 5, 10, 12, 16);
+        DUE.is("marking() of the diamond and a state", x.marking(), 3);
+        x.rename(0, 5);
+        x.makeNet();
+        DUE.is("consumed(0) behind rename(0, 5)", x.consumed(0), 0);
+        DUE.is("produced(0) behind rename(0, 5)", x.produced(0), 0);
+        DUE.is("consumed(5) behind rename(0, 5)", x.consumed(5), 2);
+        RegionNets less = netOf(Systems.system(3));
+        less.step(0, 0, 1);
+        less.step(1, 0, 2);
+        less.step(2, 0, 0);
+        placesAre("three states with a ring", less);
+        DUE.is("marking() of three states with a ring", less.marking(), 0);
+        DUE.is("markingCount() of three states with a ring", less.markingCount(), 1);
+        less.unstep(2, 0);
+        less.unstep(1, 0);
+        placesAre("three states with a step", less, 1, 2, 4);
+        DUE.is("markingCount() of three states with a step", less.markingCount(), 2);
+        DUE.is("markingAt(1) of three states with a step", less.markingAt(1), 2);
+    }
+
     // ---- promise 31
 
     private static void behaving() {
@@ -425,6 +496,8 @@ public final class NetBoundariesTest {
             faithful("12 states, one reached", Systems.system(12), true);
             faithful("unreached states that no region tells from reached ones",
                 Systems.system(4, 0, 0, 1, 2, 0, 1, 3, 0, 1), true);
+            faithful("an unreached state that no region tells from a later one, which is reached",
+                Systems.system(4, 0, 0, 2, 2, 1, 3, 1, 1, 3), true);
             faithful("unreached states with a step of their own", Systems.system(4, 0, 0, 1, 2, 1, 3), true);
             faithful("a label that leaks in unreached states alone",
                 Systems.system(4, 0, 0, 1, 2, 0, 1, 3, 0, 1, 0, 1, 1), true);

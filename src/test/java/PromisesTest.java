@@ -260,8 +260,8 @@ public final class PromisesTest {
         DUE.is("regionCount() of {0} and {1, 2, 3}", lone.regionCount(), 2);
         DUE.is("isLeast(1) of {1, 2, 3}", lone.isLeast(1), true);
         RegionNets part = Systems.system(4, 1, 0, 2, 2, 0, 1);
-        DUE.is("region(2) with {0} as its one part", part.region(2), 7);
-        DUE.is("isLeast(2) with {0} as its one part", part.isLeast(2), false);
+        DUE.is("region(2): {0, 1, 2}, of which {0} and {1, 2} are parts", part.region(2), 7);
+        DUE.is("isLeast(2): {0, 1, 2}", part.isLeast(2), false);
         telling(x);
         preventing(x);
         afterChanges();
@@ -401,7 +401,7 @@ public final class PromisesTest {
         dropping(x);
         DUE.is("makeNet() of swap", Systems.swap().makeNet(), 0);
         RegionNets part = Systems.system(4, 1, 0, 2, 2, 0, 1);
-        DUE.is("makeNet() where the place 0 alone is a part of a region", part.makeNet(), 3);
+        DUE.is("makeNet() where {0} and {1, 2} are parts of a region", part.makeNet(), 3);
         DUE.is("placeRegion(2) there", part.placeRegion(2), 8);
         DUE.is("makeNet() of one state", new RegionNets().makeNet(), 0);
         DUE.is("makeNet() without steps", Systems.system(12).makeNet(), 12);

@@ -227,7 +227,7 @@ public final class RegionBoundariesTest {
         DUE.is("isLeast(3071): {10, 11}", x.isLeast(3071), false);
         DUE.is("isLeast(4093): all but 0", x.isLeast(4093), false);
         RegionNets part = Systems.system(4, 1, 0, 2, 2, 0, 1);
-        DUE.is("isLeast(2): {0, 1, 2} has the first region as its one part", part.isLeast(2), false);
+        DUE.is("isLeast(2): {0} and {1, 2} are parts of {0, 1, 2}", part.isLeast(2), false);
         DUE.is("isLeast(1): {1, 2}", part.isLeast(1), true);
         RegionNets before = Systems.system(4, 0, 0, 3, 3, 0, 0);
         DUE.is("region(2): {1, 2}", before.region(2), 6);
@@ -295,6 +295,9 @@ public final class RegionBoundariesTest {
     }
 
     private static void smallestFirst() {
+        // The label 1 brings the state 0; then both 0 and 2 are MIXED, and either would suffice.
+        RegionNets back = Systems.system(8, 5, 1, 6, 0, 1, 7, 2, 0, 0, 3, 0, 1, 0, 2, 1, 2, 2, 3);
+        DUE.is("grow({5}): behind the label 1 the label 0 comes before 2", back.grow(32), 35);
         for (int less = 0; less < 5; less++) {
             for (int more = less + 1; more < 6; more++) {
                 RegionNets ends = Systems.system(4, 2, less, 0, 3, less, 1, 0, more, 1, 2, more, 3);

@@ -22,7 +22,7 @@ public final class SystemBoundariesTest {
     private static void limits() {
         DUE.sentence("An object is used for at most 512 calls after it has been made",
             SystemBoundariesTest::lastOf512Calls);
-        DUE.sentence("An object is used for at most 512 calls (dear ones)",
+        DUE.sentence("at most 512 calls",
             SystemBoundariesTest::lastOf512DearCalls);
         DUE.sentence("A system has at most 12 states", SystemBoundariesTest::twelveStates);
         DUE.sentence("numbered from 0 in the order of their creation",
@@ -301,10 +301,10 @@ public final class SystemBoundariesTest {
         DUE.is("crossing({11}, 5)", x.crossing(2048, 5), 2);
         DUE.is("crossing({0}, 5)", x.crossing(1, 5), 1);
         DUE.is("distance(11)", x.distance(11), 1);
-        DUE.is("digest(): with just these steps", x.digest(), digestOfTwoSteps(x));
+        DUE.is("digest(): with just these steps", x.digest(), digestOfTwoSteps());
     }
 
-    private static long digestOfTwoSteps(RegionNets x) {
+    private static long digestOfTwoSteps() {
         long d = Systems.digestOf(12);
         for (int at = 0; at < 72; at++) {
             d = d * 31 + (at == 0 ? 11 : at == 71 ? 0 : -1);
@@ -349,13 +349,11 @@ public final class SystemBoundariesTest {
     private static void stepRefused() {
         for (int states : new int[] {1, 4, 12}) {
             for (int no : Systems.noStates(states)) {
-                if (no < 0 || no >= states) {
-                    RegionNets x = Systems.system(states);
-                    DUE.isThrown("step(" + no + ", 0, 0)", INDEX, () -> x.step(no, 0, 0));
-                    DUE.isThrown("step(0, 0, " + no + ")", INDEX, () -> x.step(0, 0, no));
-                    DUE.isThrown("step(" + no + ", 6, 0)", INDEX, () -> x.step(no, 6, 0));
-                    DUE.is("enabled(0) then", x.enabled(0), 0);
-                }
+                RegionNets x = Systems.system(states);
+                DUE.isThrown("step(" + no + ", 0, 0)", INDEX, () -> x.step(no, 0, 0));
+                DUE.isThrown("step(0, 0, " + no + ")", INDEX, () -> x.step(0, 0, no));
+                DUE.isThrown("step(" + no + ", 6, 0)", INDEX, () -> x.step(no, 6, 0));
+                DUE.is("enabled(0) then", x.enabled(0), 0);
             }
         }
     }
@@ -391,12 +389,10 @@ public final class SystemBoundariesTest {
     private static void unstepRefused() {
         for (int states : new int[] {1, 4, 12}) {
             for (int no : Systems.noStates(states)) {
-                if (no < 0 || no >= states) {
-                    RegionNets x = Systems.system(states, 0, 0, 0);
-                    DUE.isThrown("unstep(" + no + ", 0)", INDEX, () -> x.unstep(no, 0));
-                    DUE.isThrown("unstep(" + no + ", 6)", INDEX, () -> x.unstep(no, 6));
-                    DUE.is("enabled(0) then", x.enabled(0), 1);
-                }
+                RegionNets x = Systems.system(states, 0, 0, 0);
+                DUE.isThrown("unstep(" + no + ", 0)", INDEX, () -> x.unstep(no, 0));
+                DUE.isThrown("unstep(" + no + ", 6)", INDEX, () -> x.unstep(no, 6));
+                DUE.is("enabled(0) then", x.enabled(0), 1);
             }
         }
     }
@@ -421,7 +417,9 @@ public final class SystemBoundariesTest {
         DUE.is("target(5, 5)", x.target(5, 5), 6);
         DUE.is("target(11, 5)", x.target(11, 5), 3);
         DUE.is("target(10, 5): it had the other label before", x.target(10, 5), 2);
-        DUE.is("crossing({11}, 0): no step has the label", x.crossing(2048, 0), 0);
+        DUE.is("crossing({11}, 0), where a step began: none has the label", x.crossing(2048, 0), 0);
+        DUE.is("crossing({3}, 0), where a step ended: none has the label", x.crossing(8, 0), 0);
+        DUE.is("crossing({6}, 0), where a step ended: none has the label", x.crossing(64, 0), 0);
         DUE.is("crossing({5, 10, 11}, 5): the loop at 0 stays outside", x.crossing(3104, 5), 3);
         DUE.is("crossing({5, 6}, 5)", x.crossing(96, 5), 0);
         DUE.is("rename(5, 0): those are all of them now", x.rename(5, 0), 4);
@@ -510,17 +508,15 @@ public final class SystemBoundariesTest {
     private static void looksRefused() {
         for (int states : new int[] {1, 4, 12}) {
             for (int no : Systems.noStates(states)) {
-                if (no < 0 || no >= states) {
-                    RegionNets x = Systems.system(states, 0, 0, 0);
-                    DUE.isThrown("target(" + no + ", 0)", INDEX, () -> x.target(no, 0));
-                    DUE.isThrown("enabled(" + no + ")", INDEX, () -> x.enabled(no));
-                    DUE.isThrown("distance(" + no + ")", INDEX, () -> x.distance(no));
-                    DUE.isThrown("apart(" + no + ", 0)", INDEX, () -> x.apart(no, 0));
-                    DUE.isThrown("apart(0, " + no + ")", INDEX, () -> x.apart(0, no));
-                    DUE.isThrown("apart(" + no + ", " + no + ")", INDEX, () -> x.apart(no, no));
-                    DUE.isThrown("preventer(" + no + ", 0)", INDEX, () -> x.preventer(no, 0));
-                    DUE.isThrown("preventer(" + no + ", 6)", INDEX, () -> x.preventer(no, 6));
-                }
+                RegionNets x = Systems.system(states, 0, 0, 0);
+                DUE.isThrown("target(" + no + ", 0)", INDEX, () -> x.target(no, 0));
+                DUE.isThrown("enabled(" + no + ")", INDEX, () -> x.enabled(no));
+                DUE.isThrown("distance(" + no + ")", INDEX, () -> x.distance(no));
+                DUE.isThrown("apart(" + no + ", 0)", INDEX, () -> x.apart(no, 0));
+                DUE.isThrown("apart(0, " + no + ")", INDEX, () -> x.apart(0, no));
+                DUE.isThrown("apart(" + no + ", " + no + ")", INDEX, () -> x.apart(no, no));
+                DUE.isThrown("preventer(" + no + ", 0)", INDEX, () -> x.preventer(no, 0));
+                DUE.isThrown("preventer(" + no + ", 6)", INDEX, () -> x.preventer(no, 6));
             }
         }
     }
