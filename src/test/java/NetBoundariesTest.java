@@ -468,6 +468,10 @@ public final class NetBoundariesTest {
         DUE.is("consumed(0) behind rename(0, 5)", x.consumed(0), 0);
         DUE.is("produced(0) behind rename(0, 5)", x.produced(0), 0);
         DUE.is("consumed(5) behind rename(0, 5)", x.consumed(5), 2);
+        DUE.is("markingCount() behind rename(0, 5)", x.markingCount(), 4);
+        x.rename(5, 5);
+        x.makeNet();
+        DUE.is("markingCount() of the same net made again", x.markingCount(), 4);
         RegionNets less = netOf(Systems.system(3));
         less.step(0, 0, 1);
         less.step(1, 0, 2);
